@@ -24,6 +24,7 @@ public final class RansomHymn {
     private static final int MOST_PITCH = 40;
     private static final int MOST_CROWNS = 999;
     private static final int MOST_VALUE = 9999;
+    private static final int MOST_SEED = 99999;
     private static final int BEYOND_ALL = 1000000;
     private static final int HUNDRED = 100;
 
@@ -55,8 +56,9 @@ public final class RansomHymn {
     private static final int TIMES = 15;
     private static final int BY = 16;
 
-    /** The words of the language: their kinds follow in this order from TAVERN to PARTS. */
-    private static final String WORDS = "tavern voice verse baker purse seed law boy pawn odds part due crack or and not debt rate notes rests high week parts";
+    /** The words of the language: their kinds follow in this order, from TAVERN on and from OR on. */
+    private static final String LINE_WORDS = "tavern voice verse baker purse seed law boy pawn odds part due crack";
+    private static final String FORMULA_WORDS = "or and not debt rate notes rests high week parts";
     private static final int TAVERN = 17;
     private static final int VOICE = 18;
     private static final int VERSE = 19;
@@ -74,6 +76,11 @@ public final class RansomHymn {
     private static final int AND = 31;
     private static final int NOT = 32;
     private static final int DEBT = 33;
+    private static final int RATE = 34;
+    private static final int NOTES = 35;
+    private static final int RESTS = 36;
+    private static final int HIGH = 37;
+    private static final int WEEK = 38;
     private static final int PARTS = 39;
     private static final int WORD_COUNT = PARTS - TAVERN + 1;
     private static final int NAME_COUNT = PARTS - DEBT + 1;
@@ -334,7 +341,10 @@ public final class RansomHymn {
     }
 
     public int sold(int verses, int verse, int what) {
-        if (!hymn.hasVerses(verses) || !hymn.verses.holds(verse) || (verses >> verse & 1) == 0 || what < 0 || what > 1) {
+        if (!hymn.hasVerses(verses) || !hymn.verses.holds(verse) || what < 0 || what > 1) {
+            return NONE;
+        }
+        if ((verses >> verse & 1) == 0) {
             return NONE;
         }
         sale.hold(verses);
@@ -920,6 +930,7 @@ public final class RansomHymn {
     /** The TOKEN of the TAPE that is read now; behind a FAULT there are no more. */
     private static final class Tokens {
         private static final int FIRST_SHIFT = 25;
+        private static final int LETTER_BITS = 5;
         private final byte[] bytes;
         private final int[] words = new int[WORD_COUNT];
         private int end = 0;
@@ -932,16 +943,21 @@ public final class RansomHymn {
 
         Tokens(byte[] bytes) {
             this.bytes = bytes;
-            int word = 0;
+            packWords(LINE_WORDS, 0);
+            packWords(FORMULA_WORDS, OR - TAVERN);
+        }
+
+        private void packWords(String text, int first) {
+            int word = first;
             int shift = FIRST_SHIFT;
-            for (int i = 0; i < WORDS.length() && word < WORD_COUNT; i++) {
-                char sign = WORDS.charAt(i);
+            for (int i = 0; i < text.length() && word < WORD_COUNT; i++) {
+                char sign = text.charAt(i);
                 if (sign == ' ') {
                     word++;
                     shift = FIRST_SHIFT;
                 } else {
                     words[word] |= (sign - 'a' + 1) << shift;
-                    shift -= 5;
+                    shift -= LETTER_BITS;
                 }
             }
         }
@@ -998,10 +1014,10 @@ public final class RansomHymn {
                 if (shift >= 0) {
                     value |= (bytes[at] - 'a' + 1) << shift;
                 }
-                shift -= 5;
+                shift -= LETTER_BITS;
                 at++;
             }
-            kind = shift >= -5 ? NAME : BROKEN;
+            kind = shift >= -LETTER_BITS ? NAME : BROKEN;
             for (int i = 0; i < WORD_COUNT && kind == NAME; i++) {
                 if (words[i] == value) {
                     kind = TAVERN + i;
@@ -1086,10 +1102,12 @@ public final class RansomHymn {
                         readBaker();
                         break;
                     case PURSE:
-                        readPurse();
+                        hymn.purse = loneNumber(purseTold, MOST_CROWNS);
+                        purseTold = true;
                         break;
                     case SEED:
-                        readSeed();
+                        hymn.seed = loneNumber(seedTold, MOST_SEED);
+                        seedTold = true;
                         break;
                     case LAW:
                         readLaw();
@@ -1177,24 +1195,13 @@ public final class RansomHymn {
             hymn.formulas.tell(FIRST_BID + baker, tokens);
         }
 
-        private void readPurse() {
-            if (purseTold) {
+        private int loneNumber(boolean told, int most) {
+            if (told) {
                 tokens.fail(TOLD_ALREADY);
-                return;
+                return 0;
             }
-            purseTold = true;
             tokens.next();
-            hymn.purse = number(0, MOST_CROWNS);
-        }
-
-        private void readSeed() {
-            if (seedTold) {
-                tokens.fail(TOLD_ALREADY);
-                return;
-            }
-            seedTold = true;
-            tokens.next();
-            hymn.seed = number(0, 99999);
+            return number(0, most);
         }
 
         private void readLaw() {
@@ -1455,15 +1462,15 @@ public final class RansomHymn {
 
         private void setOwner(int debt, int rate, int week) {
             names[0] = debt;
-            names[1] = rate;
-            names[5] = week;
+            names[RATE - DEBT] = rate;
+            names[WEEK - DEBT] = week;
         }
 
         private void setMusic(int notes, int rests, int high, int parts) {
-            names[2] = notes;
-            names[3] = rests;
-            names[4] = high;
-            names[6] = parts;
+            names[NOTES - DEBT] = notes;
+            names[RESTS - DEBT] = rests;
+            names[HIGH - DEBT] = high;
+            names[PARTS - DEBT] = parts;
         }
 
         /** E, brought within 0 .. most; what it is otherwise without E or with an ERROR. */

@@ -46,6 +46,8 @@ public final class BargainTest {
         Check.same("chosen(0, -1, 0)", x.chosen(0, -1, 0), -1);
         RansomHymn y = Check.told("voice a 1 9 boy;voice b 1 2;verse v part 1 5;law crack 100;");
         Check.same("a boy", y.chosen(0, 0, 0), 0);
+        RansomHymn w = Check.told("voice a 30 40;voice b 1 9;verse v part 1 5;");
+        Check.same("chosen ahead of best", w.chosen(0, 0, 0), 1);
         y.keep();
         y.sunday();
         Check.same("cracked", y.chosen(0, 0, 0), 1);
@@ -243,6 +245,13 @@ public final class BargainTest {
         Check.same("a and b ahead of a and d", x.gang(), 3);
         x.hum(40);
         Check.same("nobody", x.gang(), -2);
+        RansomHymn y = Check.told("voice a 1 1;voice b 2 2;voice c 3 3;voice d 4 4;voice e 5 5;voice f 6 6;");
+        for (int pitch = 1; pitch <= 6; pitch++) {
+            y.hum(pitch);
+        }
+        Check.same("all six", y.gang(), 63);
+        y.strike(0);
+        Check.same("all but a", y.gang(), 62);
     }
 
     private static void rounds() {

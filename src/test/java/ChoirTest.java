@@ -262,6 +262,9 @@ public final class ChoirTest {
         Check.same("it stays", y.sings(0, 0), 0);
         Check.same("count(7)", y.count(7), 1);
         Check.same("purse", y.count(6), 97);
+        RansomHymn z = Check.told("tavern t 0 0;voice a 1 9 pawn t 1;verse v part 1;purse 1;");
+        z.redeem(0, 0, 0);
+        Check.same("the till has just that", z.undo(), 0);
     }
 
     private static void barsHeard() {

@@ -339,9 +339,9 @@ public final class ModelTest {
             return;
         }
         int crowns = random.nextInt(3) == 0 ? arg(1000) : arg(60);
-        check("best(" + crowns + ", 0)", x.best(crowns, 0), m.best(crowns, 0));
-        check("best(" + crowns + ", 1)", x.best(crowns, 1), m.best(crowns, 1));
         check("chosen(" + crowns + ", " + verse + ", " + part + ")", x.chosen(crowns, verse, part),
                 m.chosen(crowns, verse, part));
+        check("best(" + crowns + ", 0)", x.best(crowns, 0), m.best(crowns, 0));
+        check("best(" + crowns + ", 1)", x.best(crowns, 1), m.best(crowns, 1));
     }
 }

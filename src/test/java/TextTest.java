@@ -89,6 +89,20 @@ public final class TextTest {
         Check.same("only the first n bytes", x.text(8), 1);
         Check.same("purse", x.count(6), 7);
         Check.same("the rest is gone", x.text(1), -2);
+        cutOff("purse 12;", 7, 7);
+        cutOff("law due 1<=2;", 10, 10);
+        cutOff("law due week+1;", 12, 12);
+        cutOff("law due week+1;", 11, 8);
+        cutOff("purse 12;", 4, 0);
+    }
+
+    /** Nothing behind the first n bytes is looked at. */
+    private static void cutOff(String text, int n, int place) {
+        RansomHymn x = new RansomHymn();
+        Check.feed(x, text);
+        Check.same("the first " + n + " of " + text, x.text(n), -1);
+        Check.same("fault", x.fault(0), 1);
+        Check.same("place", x.fault(1), place);
     }
 
     private static void latestFault() {
