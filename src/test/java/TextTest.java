@@ -147,6 +147,10 @@ public final class TextTest {
         Check.faulty("verse v part 1 part;", 1, 19);
         Check.faulty("baker b 5;", 1, 9);
         Check.faulty("law;", 1, 3);
+        Check.faulty("tavern;", 1, 6);
+        Check.faulty("voice;", 1, 5);
+        Check.faulty("verse;", 1, 5);
+        Check.faulty("baker;", 1, 5);
         Check.faulty("law rate 1;", 1, 4);
         Check.faulty("law crack", 1, 9);
         Check.faulty("seed -1;", 1, 5);
@@ -210,6 +214,8 @@ public final class TextTest {
         Check.faulty("law due ();", 1, 9);
         Check.faulty("law due (1;", 1, 10);
         Check.faulty("law due (1", 1, 10);
+        Check.faulty("law due 1<=", 1, 11);
+        Check.faulty("law due 1<", 1, 10);
         Check.faulty("law due 1);", 1, 9);
         Check.faulty("law due (1 2);", 1, 11);
         Check.faulty("law due 1 2;", 1, 10);
