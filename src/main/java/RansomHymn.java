@@ -805,7 +805,6 @@ public final class RansomHymn {
             System.arraycopy(other.from, 0, from, 0, from.length);
             System.arraycopy(other.to, 0, to, 0, to.length);
             size = other.size;
-            knots = other.knots;
         }
 
         boolean isTold(int formula) {

@@ -4,6 +4,7 @@ import java.nio.charset.StandardCharsets;
 final class Check {
     private static int checks = 0;
     private static int wrong = 0;
+    private static String subject = "";
 
     private Check() {
     }
@@ -13,13 +14,22 @@ final class Check {
         if (got != want) {
             wrong++;
             if (wrong <= 50) {
-                System.out.println(call + " answered " + got + ", due is " + want);
+                System.out.println(subject + call + " answered " + got + ", due is " + want);
             }
         }
     }
 
     static void isTrue(String what, boolean holds) {
         same(what, holds ? 1 : 0, 1);
+    }
+
+    /** What the checks that follow are of; told with those that are wrong. */
+    static void about(String what) {
+        subject = what.isEmpty() ? "" : what + ": ";
+    }
+
+    static int made() {
+        return checks;
     }
 
     static int wrongSoFar() {
