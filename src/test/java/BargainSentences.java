@@ -208,6 +208,19 @@ final class BargainSentences {
         enough.redeem(0, 0, 0);
         enough.sunday();
         Check.same("the till isn't more", enough.run(0, 0), 3);
+        RansomHymn six = Check.told("tavern t 0 9;voice a 1 9 pawn t 0;voice b 1 9 pawn t 0;voice c 1 9 pawn t 0;voice d 1 9 pawn t 0;"
+                + "voice e 1 9 pawn t 0;voice f 1 9 pawn t 0;verse v part 0 part 0 0 part 0;verse w part 0 0 part 0 0 part 0 0 0;");
+        for (int voice = 0; voice < 6; voice++) {
+            six.redeem(voice / 3, voice % 3, voice);
+        }
+        six.sunday();
+        Check.same("claims of six", six.tavern(0, 2), 11);
+        int[] want = {9, 1, 2, 1, 2, 2, 1};
+        for (int voice = -1; voice < 6; voice++) {
+            Check.same("run(0, " + voice + ") of six", six.run(0, voice), want[voice + 1]);
+        }
+        Check.same("pay of six", six.pay(0), 9);
+        Check.same("the last one's claim", six.look(5, 4), 2);
     }
 
     private static void whole(RansomHymn x, int voice, int n, long above, long below) {

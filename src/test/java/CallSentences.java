@@ -423,10 +423,26 @@ final class CallSentences {
         bars(x, new int[] {7, 4, 0, 5, 4, 4, 4, 4});
         Check.same("another verse", x.bar(1, 0), 0);
         Check.same("a bar behind its last", x.bar(1, 7), 0);
+        x.redeem(1, 0, 1);
+        bars(x, new int[] {7, 4, 0, 5, 4, 4, 4, 4});
+        Check.same("another verse", x.bar(1, 0), 1);
+        x.undo();
+        Check.same("another verse", x.bar(1, 0), 0);
         x.undo();
         bars(x, new int[] {5, 4, 0, 5, 4, 4, 4, 4});
         x.sunday();
         bars(x, new int[8]);
+        StringBuilder text = new StringBuilder("voice a 1 9;voice b 1 9;voice c 1 9;");
+        for (char name = 'a'; name < 'e'; name++) {
+            text.append("verse ").append(name).append(" part 1 1 1 1 1 1 1 1".repeat(3)).append(';');
+        }
+        RansomHymn y = Check.told(text.toString());
+        for (int i = 0; i < 12; i++) {
+            y.redeem(i / 3, i % 3, i % 3);
+        }
+        for (int i = 0; i < 32; i++) {
+            Check.same("all are heard", y.bar(i / 8, i % 8), 7);
+        }
         Doc.says(17, "NONE: no such ones.");
         none("bar(0, n)", n -> x.bar(0, n), 8, 9, -1, LEAST, GREATEST, 32, 33);
         none("bar(n, 0)", n -> x.bar(n, 0), 2, 3, 4, -1, LEAST, GREATEST);

@@ -152,6 +152,7 @@ final class ChoirSentences {
         Doc.says(Doc.TERMS, "VALUES are longs;");
         value("9999*9999*9999/9999/9999/11", 909);
         value("9999*9999*9999>9999*9999*100", 1);
+        value("4096*4096*4096/4096/4096/8", 512);
         value("(0-9999*9999*100)/(0-9999*9999)", 100);
         Doc.says(Doc.TERMS, "comparisons, and, or, not are 1 or 0 (what isn't 0 is as 1, both sides are worked out),");
         value("(5>3)*7+(3>5)", 7);
@@ -206,6 +207,10 @@ final class ChoirSentences {
         value("(8192*8192*8192)*(8192*8192)*0", 13);
         value("0*((4096*4096*4096)*(4096*4096*16))", 13);
         value("0*((4096*4096*4096)*(0-4096*4096*16))", 13);
+        RansomHymn x = Check.told("tavern t 0 0;voice a 1 9 pawn t 7;verse v part 1;law crack 1/0;law due 5;baker p 9 1/0;baker q 9 6;");
+        Check.same("an error of another E", x.due(0, 0, 0), 5);
+        Check.same("an error of another E", x.bids(1, 0), 6);
+        Check.same("its own", x.bids(0, 0), 0);
         Check.same("a baker's error", Check.told("verse v part 1;baker b 9 5/week;").bids(0, 0), 0);
         Check.same("a baker's error", Check.told("verse v part 1;baker b 9 " + TRILLION + "+1;").bids(0, 0), 0);
         Check.same("a crack's error", Check.told("voice a 1 1 boy;law crack " + TRILLION + "+1;").cracks(0), 0);

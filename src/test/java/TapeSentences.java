@@ -94,6 +94,21 @@ final class TapeSentences {
         Check.feed(cut, "purse 123;");
         Check.same("no byte behind n is looked at", cut.text(7), -1);
         Check.same("place", cut.fault(1), 7);
+        Check.feed(cut, "law due week;");
+        Check.same("the first letters of a word", cut.text(11), -1);
+        Check.same("place", cut.fault(1), 8);
+        Check.feed(cut, "law due 1<=2;");
+        Check.same("the first of two signs", cut.text(10), -1);
+        Check.same("place", cut.fault(1), 10);
+        Check.feed(cut, "purse 12;");
+        Check.same("the first digit", cut.text(7), -1);
+        Check.same("place", cut.fault(1), 7);
+        Check.same("letters up to the last byte of a full tape", Check.tell(cut, " ".repeat(794) + "tavern"), -1);
+        Check.same("place", cut.fault(1), 800);
+        Check.same("digits up to the last byte of a full tape", Check.tell(cut, " ".repeat(793) + "purse 1"), -1);
+        Check.same("place", cut.fault(1), 800);
+        Check.same("a sign as the last byte of a full tape", Check.tell(cut, " ".repeat(790) + "law due 1<"), -1);
+        Check.same("place", cut.fault(1), 800);
         Doc.says(3, "(WEEK 0, nobody REDEEMED, no CLAIMS, nothing HUMMED, all KNOWN, no IMAGE then)");
         RansomHymn y = State.full();
         State.stir(y);
@@ -146,6 +161,11 @@ final class TapeSentences {
             Check.same("a bracket too many", Check.tell(z, "law due 1);"), -1);
             Check.same("its place", z.fault(1), 9);
         }
+        for (int i = 0; i < 20; i++) {
+            Check.same("eight are open", Check.tell(z, "law due 1+(1*((((((("), -1);
+        }
+        Check.same("told behind them", Check.tell(z, small + "law due 100-2*3;"), 6);
+        Check.same("100 less 6", z.due(0, 0, 1), 94);
     }
 
     private static void refusedTexts() {
