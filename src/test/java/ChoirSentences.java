@@ -211,6 +211,11 @@ final class ChoirSentences {
         Check.same("an error of another E", x.due(0, 0, 0), 5);
         Check.same("an error of another E", x.bids(1, 0), 6);
         Check.same("its own", x.bids(0, 0), 0);
+        RansomHymn y = Check.told("tavern t 0 0;voice a 1 9 pawn t 7;verse v part 1;law crack 5+2*3;law due 1+(2+(3+(4+1/0)));");
+        for (int i = 0; i < 100; i++) {
+            Check.same("an error, again and again", y.due(0, 0, 0), 7);
+        }
+        Check.same("what comes behind them", y.cracks(0), 11);
         Check.same("a baker's error", Check.told("verse v part 1;baker b 9 5/week;").bids(0, 0), 0);
         Check.same("a baker's error", Check.told("verse v part 1;baker b 9 " + TRILLION + "+1;").bids(0, 0), 0);
         Check.same("a crack's error", Check.told("voice a 1 1 boy;law crack " + TRILLION + "+1;").cracks(0), 0);

@@ -570,6 +570,13 @@ final class TextSentences {
         Check.faulty(most + "baker b 1 not not not 5;", 2, at + 22);
         Check.faulty(most + "baker b 1 not not not not 5;", 2, at + 22);
         Check.faulty(most + "baker b 1 1;law crack 1;baker c 1 1;baker d 1 1;", 2, at + 46);
+        // As many as can wait for what they work on: 63 of them and all eight brackets.
+        knots("law due " + "not ".repeat(63) + "5;", 64);
+        value("not ".repeat(63) + "5", 0);
+        value("not ".repeat(63) + "0", 1);
+        value("not (".repeat(8) + "not ".repeat(55) + "5" + ")".repeat(8), 0);
+        value("not (".repeat(8) + "not ".repeat(53) + "1-1" + ")".repeat(8), 1);
+        Check.faulty("law due " + "not ".repeat(64) + "5;", 2, 8 + 64 * 4);
         Check.faulty(FULL_LAW + "law crack 1;", 2, FULL_LAW.length() + 10);
         Check.faulty("law due 1" + "+1".repeat(31) + "*1;", 2, 8 + 64);
         RansomHymn x = Check.told(most);
