@@ -1,5 +1,13 @@
 import java.lang.management.ManagementFactory;
+import java.lang.reflect.Array;
+import java.lang.reflect.Field;
+import java.lang.reflect.Modifier;
+import java.util.ArrayList;
+import java.util.Collections;
+import java.util.IdentityHashMap;
+import java.util.List;
 import java.util.Random;
+import java.util.Set;
 
 /** Wild arguments in full states: nothing is thrown that the document doesn't name, and nothing is made. */
 public final class RoomTest {
@@ -12,7 +20,11 @@ public final class RoomTest {
             + "verse c part 5 6 part 7 part 8 0;verse d part 40 part 1 part 20;"
             + "baker a 99 notes*3/week;baker b 80 high;baker c 70 rests+9;purse 500;seed 11;law due debt*notes;law crack week*9;";
 
-    public static void main(String[] args) {
+    /** So many new objects must have room beside one another: 600,000 objects, 7.3 million fields and elements. */
+    private static final int OBJECTS_OF_A_RUN = 2000;
+
+    public static void main(String[] args) throws IllegalAccessException {
+        checkRoomOf(new RansomHymn());
         com.sun.management.ThreadMXBean meter = (com.sun.management.ThreadMXBean) ManagementFactory.getThreadMXBean();
         Random random = new Random(1);
         RansomHymn[] objects = new RansomHymn[60];
@@ -20,7 +32,7 @@ public final class RoomTest {
         for (int i = 0; i < objects.length; i++) {
             objects[i] = new RansomHymn();
             if (i % 6 != 0) {
-                Check.tell(objects[i], FULL);
+                Check.same("lines of the full text", Check.tell(objects[i], FULL), 20);
             }
         }
         wild(objects[0], random, five, 100);
@@ -32,6 +44,43 @@ public final class RoomTest {
         long made = meter.getThreadAllocatedBytes(thread) - before;
         Check.isTrue("bytes that 27000 calls made: " + made, made < 100000);
         Check.end("RoomTest");
+    }
+
+    private static void checkRoomOf(RansomHymn x) throws IllegalAccessException {
+        Set<Object> seen = Collections.newSetFromMap(new IdentityHashMap<>());
+        List<Object> open = new ArrayList<>();
+        open.add(x);
+        int cells = 0;
+        while (!open.isEmpty()) {
+            Object one = open.remove(open.size() - 1);
+            if (one != null && seen.add(one)) {
+                cells += one.getClass().isArray() ? openArray(one, open) : openFields(one, open);
+            }
+        }
+        Check.isTrue("objects of a new one: " + seen.size(), seen.size() <= 600000 / OBJECTS_OF_A_RUN);
+        Check.isTrue("fields and elements of a new one: " + cells, cells <= 7300000 / OBJECTS_OF_A_RUN);
+    }
+
+    private static int openArray(Object row, List<Object> open) {
+        int length = Array.getLength(row);
+        for (int i = 0; i < length && !row.getClass().getComponentType().isPrimitive(); i++) {
+            open.add(Array.get(row, i));
+        }
+        return length;
+    }
+
+    private static int openFields(Object one, List<Object> open) throws IllegalAccessException {
+        int fields = 0;
+        for (Field field : one.getClass().getDeclaredFields()) {
+            if (!Modifier.isStatic(field.getModifiers())) {
+                fields++;
+                field.setAccessible(true);
+                if (!field.getType().isPrimitive()) {
+                    open.add(field.get(one));
+                }
+            }
+        }
+        return fields;
     }
 
     private static void wild(RansomHymn x, Random random, int[] five, int calls) {
